@@ -9,6 +9,7 @@ public final class FeastTest {
         promise2Feed();
         promise3Feast();
         promise3FeastClearsAll();
+        promise3NothingOfFeastsAhead();
         promise3FaultLeavesAll();
         promise4Fault();
         promise4Places();
@@ -93,6 +94,40 @@ public final class FeastTest {
         Check.due("3: undo()", x.undo(), RopeWords.NOT);
         Check.due("3: a word may come again", x.round(0, 110, 1, 30), -5);
         Check.due("3: the seed stays", x.seed(1), 77);
+    }
+
+    /** More feasts than one, for the object may use again what it read earlier ones into. */
+    private static void promise3NothingOfFeastsAhead() {
+        RopeWords x = new RopeWords();
+        String great = "g4 9;s1;s2;s3;s4;s5;s9;e1;e2;e3;e5;n0 0;n0 1;n1 0;n1 1;n5 5;n4 4;p1 40 99 100;p1 40 99 100;";
+        for (int i = 0; i < 4; i++) {
+            Check.feed(x, great);
+            Check.due("3: the great feast", x.feast(), 2);
+            x.round(0, NONE, 1, NONE);
+            Check.due("3: longest of it", x.longest(99, 0), 33);
+            Check.due("3: nobody of side 0", x.keepBack(0), NONE);
+            Check.feed(x, "g1 0;s2;s3;n0 0;p0 4 0 0;p1 4 0 0;");
+            Check.due("3: the small feast", x.feast(), 2);
+            Check.due("3: mud", x.told(1), 0);
+            Check.due("3: stems", x.told(2), 2);
+            Check.due("3: endings", x.told(3), 0);
+            Check.due("3: a third stem", x.length(30), NONE);
+            Check.due("3: two stems", x.length(110), NONE);
+            Check.due("3: how many of 1", x.howMany(1), 0);
+            Check.due("3: how many of 2", x.howMany(2), 1);
+            Check.due("3: longest", x.longest(99, 0), 3);
+            Check.due("3: the word", x.longest(2, 1), 10);
+            Check.due("3: no longer than 2", x.longest(1, 1), NONE);
+            Check.due("3: pull without mud", x.round(0, 20, 1, NONE), -3);
+            Check.due("3: rounds", x.told(7), 1);
+            Check.due("3: no third speaker", x.speaker(2, 0), UNKNOWN);
+            Check.due("3: odds", x.coughs(3), 1000000000);
+            Check.feed(x, "g4 0;s1;s2;n1 0;");
+            Check.due("3: without speakers", x.feast(), 0);
+            Check.due("3: the rope is at 0", x.told(6), 0);
+            Check.due("3: earlier bars", x.length(11120), 5);
+            Check.due("3: its bar", x.length(210), NONE);
+        }
     }
 
     private static void promise3FaultLeavesAll() {

@@ -161,5 +161,29 @@ public final class MarksTest {
         Check.due("30: the image does not change with it", x.goBack(0), 1);
         Check.due("30: rounds", x.told(7), 1);
         Check.due("30: words", x.told(8), 2);
+        promise30ImagesKeepTheirWords();
+    }
+
+    /** The words of an image are its own, not those that stand there by now. */
+    private static void promise30ImagesKeepTheirWords() {
+        RopeWords x = Check.feast("g1 0;s1;s1;s1;s1;p0 9 0 0;p1 9 0 0;");
+        x.round(0, 10, 1, 20);
+        x.keep(0);
+        RopeWords y = Check.feast("g1 0;s1;s1;s1;s1;p0 9 0 0;p1 9 0 0;");
+        y.keep(0);
+        x.round(0, 30, 1, 40);
+        Check.feed(x, "g1 0;s1;s1;s1;s1;p0 9 0 0;p1 9 0 0;");
+        x.feast();
+        x.round(0, 30, 1, 40);
+        x.keep(0);
+        x.round(0, 10, 1, 20);
+        x.keep(1);
+        x.goBack(0);
+        Check.due("30: the first said", x.said(0), 30);
+        Check.due("30: no third said", x.said(2), NONE);
+        x.goBack(1);
+        Check.due("30: the third said", x.said(2), 10);
+        y.goBack(0);
+        Check.due("30: nothing said", y.said(0), NONE);
     }
 }
