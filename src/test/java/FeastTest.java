@@ -96,11 +96,11 @@ public final class FeastTest {
         Check.due("3: the seed stays", x.seed(1), 77);
     }
 
-    /** More feasts than one, for the object may use again what it read earlier ones into. */
+    /** Nine feasts, within 512 calls, for the object may use again what it read earlier ones into. */
     private static void promise3NothingOfFeastsAhead() {
         RopeWords x = new RopeWords();
         String great = "g4 9;s1;s2;s3;s4;s5;s9;e1;e2;e3;e5;n0 0;n0 1;n1 0;n1 1;n5 5;n4 4;p1 40 99 100;p1 40 99 100;";
-        for (int i = 0; i < 4; i++) {
+        for (int i = 0; i < 3; i++) {
             Check.feed(x, great);
             Check.due("3: the great feast", x.feast(), 2);
             x.round(0, NONE, 1, NONE);

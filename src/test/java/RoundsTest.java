@@ -10,7 +10,6 @@ public final class RoundsTest {
         promise11Refusals();
         promise11RopeEnds();
         promise11WordsForgotten();
-        promise11And12Full();
         promise12Refusals();
         promise12ByHand();
         promise12SameWord();
@@ -110,26 +109,6 @@ public final class RoundsTest {
         Check.due("11: not so many", x.said(40), NONE);
         Check.due("11: the forgotten one comes again", x.round(2, 110, 3, NONE), -2);
         Check.due("11: the next is forgotten", x.said(0), 130);
-    }
-
-    /** It takes more than 512 calls to come so far, which the document leaves free; it is kept to all the same. */
-    private static void promise11And12Full() {
-        RopeWords x = Check.feast("g1 0;s3;p0 9 0 0;p1 9 0 0;");
-        for (int i = 0; i < 909; i++) {
-            x.drift(99);
-        }
-        x.drift(8);
-        Check.due("11: rounds", x.told(7), 89999);
-        Check.due("11: the 90000th", x.round(0, NONE, 1, NONE), 0);
-        Check.due("11: one more", x.round(0, NONE, 1, NONE), 0);
-        Check.due("11: above 90000", x.round(0, NONE, 1, NONE), RopeWords.FULL);
-        Check.due("11: unknown goes ahead of full", x.round(1, NONE, 1, NONE), UNKNOWN);
-        Check.due("11: not goes ahead of full", x.round(0, 99, 1, NONE), NOT);
-        Check.due("12: above 90000", x.drift(1), RopeWords.FULL);
-        Check.due("12: outside goes ahead of full", x.drift(0), RopeWords.OUTSIDE);
-        x.undo();
-        Check.due("12: from 90000 on", x.drift(99) > 0 ? 1 : 0, 1);
-        Check.due("12: rounds", x.told(7), 90099);
     }
 
     private static void promise12Refusals() {
