@@ -10,6 +10,7 @@ public final class FeastTest {
         promise3Feast();
         promise3FeastClearsAll();
         promise3NothingOfFeastsAhead();
+        promise3NoWordsOfFeastsAhead();
         promise3FaultLeavesAll();
         promise4Fault();
         promise4Places();
@@ -127,6 +128,27 @@ public final class FeastTest {
             Check.due("3: the rope is at 0", x.told(6), 0);
             Check.due("3: earlier bars", x.length(11120), 5);
             Check.due("3: its bar", x.length(210), NONE);
+        }
+    }
+
+    /** A lesser word of an earlier grammar, as long as one of this, is no word of this one. */
+    private static void promise3NoWordsOfFeastsAhead() {
+        for (int between = 0; between <= 2; between++) {
+            RopeWords x = new RopeWords();
+            Check.feed(x, "g2 0;s3;");
+            x.feast();
+            Check.due("3: 10 of 3", x.longest(3, 1), 10);
+            Check.due("3: 110 of 6", x.longest(6, 1), 110);
+            for (int i = 0; i < between; i++) {
+                Check.feed(x, "g1 0;s1;");
+                x.feast();
+                Check.due("3: 10 of 1", x.longest(6, 1), 10);
+            }
+            Check.feed(x, "g2 0;s9;s3;");
+            x.feast();
+            Check.due("3: 20 of 3 behind " + between + " between", x.longest(3, 1), 20);
+            Check.due("3: 220 of 6 behind " + between + " between", x.longest(6, 1), 220);
+            Check.due("3: how many of 6", x.howMany(6), 1);
         }
     }
 
